@@ -513,8 +513,8 @@ public final class PolarTypes {
 
     /** The row of TYPES on one side of a VARIABLE. */
     Row boundsOf(int t, int side) {
-      int slot = 2 * numberOf(t) + side;
-      if (slot < 0 || slot >= bounds.length) return noBounds;
+      int slot = 2 * firsts.get(t) + side;
+      if (sorts.get(t) != A_VARIABLE || slot < 0 || slot >= bounds.length) return noBounds;
       Row row = bounds[slot];
       return row == null ? noBounds : row;
     }
@@ -599,26 +599,19 @@ public final class PolarTypes {
         case A_FUNCTION: signs.put('>'); break;
         case A_RECORD: signs.put('{'); break;
         default:
-          if (isNumberAlone(t, way)) {
+          int slot = 2 * types.numberOf(t) + way;
+          if (types.boundsOf(t, way).size == 0 || isOpen.get(slot) == 1) {
             putNumber(t);
             return;
           }
+          isOpen.set(slot, 1);
           signs.put(way == OUT ? '|' : '&');
           putNumber(t);
-          isOpen.set(slotOf(t, way), 1);
           break;
       }
       openTypes.add(t);
       openWays.add(way);
       openPlaces.add(0);
-    }
-
-    private boolean isNumberAlone(int t, int way) {
-      return types.boundsOf(t, way).size == 0 || isOpen.get(slotOf(t, way)) == 1;
-    }
-
-    private int slotOf(int t, int way) {
-      return 2 * types.numberOf(t) + way;
     }
 
     private void putNumber(int t) {
@@ -653,7 +646,7 @@ public final class PolarTypes {
     private void close() {
       int last = openTypes.size - 1;
       int t = openTypes.get(last);
-      if (types.sortOf(t) == A_VARIABLE) isOpen.set(slotOf(t, openWays.get(last)), NONE);
+      if (types.sortOf(t) == A_VARIABLE) isOpen.set(2 * types.numberOf(t) + openWays.get(last), NONE);
       openTypes.cutTo(last);
       openWays.cutTo(last);
       openPlaces.cutTo(last);
@@ -927,10 +920,14 @@ public final class PolarTypes {
         }
         return types.addRecord(from);
       }
-      int known = copies.get(copySlot(t, way));
-      if (copyTimes.get(copySlot(t, way)) == time) return known;
-      int copy = addCopy(t, way);
+      int slot = 2 * types.numberOf(t) + (way == DOWN ? 1 : 0);
+      if (copyTimes.get(slot) == time) return copies.get(slot);
+      int copy = types.addVariable(copyLevel);
       if (copy < 0) return copy;
+      copies.set(slot, copy);
+      copyTimes.set(slot, time);
+      if (way == UP) types.boundsOf(t, ABOVE).add(copy);
+      if (way == DOWN) types.boundsOf(t, BELOW).add(copy);
       for (int side = BELOW; side <= ABOVE; side++) {
         if (!isTaken(side, way)) continue;
         Row from = types.boundsOf(t, side);
@@ -948,21 +945,6 @@ public final class PolarTypes {
     private static int otherWay(int way) {
       if (way == ANEW) return ANEW;
       return way == UP ? DOWN : UP;
-    }
-
-    private int copySlot(int t, int way) {
-      return 2 * types.numberOf(t) + (way == DOWN ? 1 : 0);
-    }
-
-    /** A VARIABLE's copy, without its bounds as yet. What is lifted up comes above it, down below it. */
-    private int addCopy(int t, int way) {
-      int copy = types.addVariable(copyLevel);
-      if (copy < 0) return copy;
-      copies.set(copySlot(t, way), copy);
-      copyTimes.set(copySlot(t, way), time);
-      if (way == UP) types.boundsOf(t, ABOVE).add(copy);
-      if (way == DOWN) types.boundsOf(t, BELOW).add(copy);
-      return copy;
     }
 
     private static boolean isTaken(int side, int way) {
