@@ -154,6 +154,7 @@ final class Model {
 
   /** What is met on the way: SPENT or FAULT, and why. */
   static final class Met extends RuntimeException {
+    private static final long serialVersionUID = 1;
     final int what;
     final String why;
 
@@ -168,7 +169,7 @@ final class Model {
 
   final class Typed {
     final List<Var> variables = new ArrayList<>();
-    int types, steps, where = NONE, answer;
+    int types, steps, where = NONE, answer, liftsUp, liftsDown;
     String why = "good";
     Type result;
     final Map<Type, Set<Type>> asked = new HashMap<>();
@@ -291,8 +292,10 @@ final class Model {
         v.below.add(a);
         for (Type high : List.copyOf(v.above)) under(a, high, depth + 1);
       } else if (a instanceof Var v) {
+        liftsDown++;
         under(a, lifted(b, false, v.level, 1, new HashMap<>()), depth + 1);
       } else if (b instanceof Var v) {
+        liftsUp++;
         under(lifted(a, true, v.level, 1, new HashMap<>()), b, depth + 1);
       } else {
         throw new Met(FAULT, "clash");

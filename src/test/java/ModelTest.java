@@ -27,7 +27,7 @@ public final class ModelTest {
     System.out.println("ModelTest met " + test.met);
     for (String due : new String[] {"type good", "type clash", "type label", "type unbound", "type steps",
         "type variables", "type types", "type typing deep", "type under deep", "type lifted deep", "type anew deep",
-        "work 0", "work 1", "work 2"}) {
+        "lifts up", "lifts down", "work 0", "work 1", "work 2"}) {
       if (!test.met.containsKey(due)) {
         System.out.println("never met: " + due);
         wrong++;
@@ -66,13 +66,14 @@ public final class ModelTest {
   private int start() {
     int room = 120 - both.model.nodes.size();
     left = Math.min(left, room);
-    switch (next(16)) {
+    switch (next(24)) {
       case 0: return room > 110 ? tower(2 + next(30)) : any(new ArrayList<>(), 9);
       case 1: return room > 110 ? doubling(1 + next(12)) : any(new ArrayList<>(), 9);
       case 2: return room > 110 ? deepLets(10 + next(46)) : any(new ArrayList<>(), 9);
       case 3: return room > 110 ? deepRecords(5 + next(55)) : any(new ArrayList<>(), 9);
       case 4: return room > 110 ? lifts(4 + next(94)) : any(new ArrayList<>(), 9);
       case 5: return room > 110 ? wide(1 + next(5)) : any(new ArrayList<>(), 9);
+      case 7: case 8: case 9: case 10: case 11: case 12: case 13: return room > 110 ? crossing() : any(new ArrayList<>(), 9);
       case 6: return room > 110 ? selves(1 + next(8), 1 + next(14)) : any(new ArrayList<>(), 9);
       default: return any(new ArrayList<>(), 3 + next(40));
     }
@@ -84,6 +85,8 @@ public final class ModelTest {
       return;
     }
     met.merge("type " + both.model.latest.why, 1, Integer::sum);
+    if (both.model.latest.liftsUp > 0) met.merge("lifts up", 1, Integer::sum);
+    if (both.model.latest.liftsDown > 0) met.merge("lifts down", 1, Integer::sum);
     both.work(top, chance(70) ? 300 : next(301));
     met.merge("work " + both.model.work.outcome, 1, Integer::sum);
   }
@@ -178,6 +181,53 @@ public final class ModelTest {
     List<Integer> more = new ArrayList<>(scope);
     more.add(x);
     return more;
+  }
+
+  // ---- programs of FUNCTIONS and LETS alone, with few RECORDS: they seldom FAULT, and their bounds cross LEVELS
+
+  private int crossing() {
+    names = 8;
+    left = 20 + next(90);
+    List<Integer> scope = new ArrayList<>();
+    int depth = 4 + next(14);
+    for (int i = 0; i < 2; i++) scope.add(i);
+    int in = cross(scope, depth);
+    return both.function(0, both.function(1, in));
+  }
+
+  private int cross(List<Integer> scope, int depth) {
+    left--;
+    if (left <= 1 || depth <= 0) return both.name(scope.get(next(scope.size())));
+    int x = next(names);
+    switch (next(20)) {
+      case 0: case 1: case 2: case 3: return both.function(x, cross(with(scope, x), depth - 1));
+      case 4: case 5: case 6: case 7: case 8: {
+        int first = cross(scope, depth - 1);
+        return both.apply(first, cross(scope, depth - 1));
+      }
+      case 9: case 10: {
+        int first = both.function(x, cross(with(scope, x), depth - 1));
+        return both.apply(first, cross(scope, depth - 1));
+      }
+      case 11: case 12: case 13: case 14: {
+        int first = cross(scope, depth - 1);
+        return both.let(x, first, cross(with(scope, x), depth - 1));
+      }
+      case 15: {
+        int first = cross(with(scope, x), depth - 1);
+        return both.rec(x, first, cross(with(scope, x), depth - 1));
+      }
+      case 16: {
+        int yes = cross(scope, depth - 1);
+        return both.pick(both.truth(1), yes, cross(scope, depth - 1));
+      }
+      case 17: {
+        int a = cross(scope, depth - 1);
+        return chance(50) ? both.get(0, both.record(0, a, 1, cross(scope, depth - 1))) : both.record(0, a);
+      }
+      case 18: return chance(30) ? both.get(next(2), both.name(scope.get(next(scope.size())))) : both.function(x, both.name(x));
+      default: return both.name(scope.get(next(scope.size())));
+    }
   }
 
   // ---- programs that come to the limits

@@ -114,7 +114,11 @@ public final class PromisesTest {
     typeOfParts();
     schemes();
     levels();
+    liftedUp();
     limitsOfTypes();
+    mostTypes();
+    deepCopies();
+    deepNodes();
     where();
     steps();
     sign();
@@ -465,6 +469,153 @@ public final class PromisesTest {
     due("v0", s.variable(0), "0 0 0");
     due("v2", s.variable(2), "1 1 1");
     due("v3", s.variable(3), "1 1 0");
+  }
+
+  private static void liftedUp() {
+    promise = "5 type, LIFTED up";
+    Program p = new Program();
+    int function = p.function(X, p.apply(p.name(F), p.name(X)));
+    int first = p.function(Y, p.apply(function, p.record(10, p.name(Y))));
+    int node = p.function(F, p.let(A, first, p.name(A)));
+    // f v0; in the LET y v1, x v2, f x v3: LIFTED down >'2'3 is >'4'5, v4 ABOVE v2, v5 BELOW v3. (2 steps)
+    // v6: {k'1} UNDER v2 and so UNDER v4: it is not low enough, and LIFTED up is {k'7}, v7 ABOVE v1. (4 steps)
+    // v3 UNDER v6: so v5 UNDER v6: it comes BELOW v6. (2 steps) MADE ANEW: v8 of v1, v9 of v6.
+    due("up", p.typed(node), "10 at -9, 8 steps >&'0>|'4{k'7}.'5.>&'8'7.|'9'5.");
+    due("v1", p.variable(1), "1 0 1");
+    due("v2", p.variable(2), "1 1 1");
+    due("v2 BELOW", p.below(2, 0), "{k'1}");
+    due("v4", p.variable(4), "0 1 0");
+    due("v4 BELOW", p.below(4, 0), "{k'7}");
+    due("v5", p.variable(5), "0 0 0");
+    due("v6", p.variable(6), "1 1 0");
+    due("v7", p.variable(7), "0 0 0");
+  }
+
+  /** 10 RECORDS within one another, told or copied from a LET as 511 and a FUNCTION and its VARIABLE; and others. */
+  private static int types(int others) {
+    Program p = new Program();
+    int[] more = new int[9];
+    more[0] = p.record(A, p.name(X), B, p.name(X));
+    for (int i = 1; i < 9; i++) more[i] = p.record(A, p.name(i - 1), B, p.name(i - 1));
+    int last = p.name(8);
+    for (int i = 8; i >= 0; i--) last = p.let(i, more[i], last);
+    int first = p.function(X, last);
+    int[] all = new int[others];
+    for (int i = 0; i < others; i++) {
+      all[i] = p.record();
+      if (i > 0) p.x.field(all[(i - 1) / 6], (i - 1) % 6, all[i]);
+    }
+    return p.x.type(p.let(Z, first, p.let(Y, all[0], p.name(Z))));
+  }
+
+  private static void mostTypes() {
+    promise = "5 type, SPENT by TYPES";
+    // 1 VARIABLE, 9 RECORDS, 1 FUNCTION; MADE ANEW 1 VARIABLE, 511 RECORDS, 1 FUNCTION: 524.
+    due("600 TYPES", types(76), 2);
+    due("601 TYPES", types(77), SPENT);
+  }
+
+  /** The NODES of a = x in {{.. x + 1, x ..}}, a FUNCTION; b = a within more RECORDS. */
+  private static int deepLet(Program p, int inner, int outer, boolean lifts) {
+    int x = p.name(X);
+    for (int i = 0; i < inner; i++) x = p.record(A, x);
+    int given = p.name(A);
+    for (int i = 0; i < outer; i++) given = p.record(A, given);
+    int in = p.let(A, p.function(X, x), lifts ? p.apply(p.name(Z), given) : given);
+    return p.function(Z, p.let(B, in, p.name(B)));
+  }
+
+  private static void deepCopies() {
+    promise = "5 type, SPENT by copies";
+    Program p = new Program();
+    // The RECORDS of b, the FUNCTION, the RECORDS of a, the VARIABLE.
+    due("MADE ANEW 60 deep", p.x.type(deepLet(p, 29, 29, false)), 4);
+    Program q = new Program();
+    due("MADE ANEW 61 deep", q.x.type(deepLet(q, 29, 30, false)), SPENT);
+    due("the NAME", q.x.told(q.x.where(), 1), B);
+    due("the VARIABLES ahead", q.x.count(1), 4);
+    Program r = new Program();
+    // One FUNCTION more around it. a's VARIABLE v2 goes down as v4, which comes BELOW it, then up as v5, and there
+    // what is BELOW it is asked too, low as it is: one deeper. z, x, v2, v3 of the APPLY, v4, v5, v6, and v7 of b.
+    due("LIFTED 60 deep", r.x.type(deepLet(r, 29, 27, true)), 8);
+    due("v5 BELOW", r.below(5, 0), "'4");
+    due("v2", r.variable(2), "1 1 1");
+    Program s = new Program();
+    due("LIFTED 61 deep", s.x.type(deepLet(s, 29, 28, true)), SPENT);
+    due("the APPLY", s.x.told(s.x.where(), 0), 4);
+    Program t = new Program();
+    // RECORDS, FUNCTION, RECORDS, PICK's VARIABLE; and a WHOLE BELOW that.
+    due("a WHOLE 60 deep", t.x.type(deepWhole(t, 28)), 6);
+    Program u = new Program();
+    due("a WHOLE 61 deep", u.x.type(deepWhole(u, 29)), SPENT);
+  }
+
+  private static int deepWhole(Program p, int inner) {
+    int x = p.pick(p.truth(1), p.number(1), p.number(2));
+    for (int i = 0; i < inner; i++) x = p.record(A, x);
+    int given = p.name(A);
+    for (int i = 0; i < 29; i++) given = p.record(A, given);
+    return p.let(A, p.function(X, x), p.let(B, given, p.name(B)));
+  }
+
+  private static int within(Program p, int kind, int place, int part) {
+    switch (kind) {
+      case 3: return p.function(A, part);
+      case 4: return place == 0 ? p.apply(part, p.number(1)) : p.apply(p.function(A, p.number(1)), part);
+      case 5: return p.record(A, part);
+      case 6: return p.get(A, part);
+      case 7: return place == 0 ? p.let(A, part, p.number(1)) : p.let(A, p.number(1), part);
+      case 8: return place == 0 ? p.rec(A, part, p.name(A)) : p.rec(A, p.number(1), part);
+      case 9:
+        if (place == 0) return p.pick(part, p.number(1), p.number(1));
+        return place == 1 ? p.pick(p.truth(1), part, p.number(1)) : p.pick(p.truth(0), p.number(1), part);
+      case 10: return place == 0 ? p.sum(part, p.number(1)) : p.sum(p.number(1), part);
+      default: return place == 0 ? p.less(part, p.number(1)) : p.less(p.number(1), part);
+    }
+  }
+
+  /** A NAME that nothing binds, as deep as told: in FIELDS, and these in some NODES of a KIND. */
+  private static int deepName(Program p, int kind, int place, int deep) {
+    int part = p.name(Z);
+    for (int i = 15; i < deep - 1; i++) part = p.get(A, part);
+    for (int i = 0; i < 15; i++) part = within(p, kind, place, part);
+    return part;
+  }
+
+  private static void deepNodes() {
+    int[] places = {0, 0, 0, 1, 2, 1, 1, 2, 2, 3, 2, 2};
+    for (int kind = 3; kind <= 11; kind++) {
+      for (int place = 0; place < places[kind]; place++) {
+        String call = "KIND " + kind + " at " + place;
+        promise = "5 type, 60 deep";
+        Program p = new Program();
+        due(call, p.x.type(deepName(p, kind, place, 60)), FAULT);
+        Program q = new Program();
+        due(call + " and one more", q.x.type(deepName(q, kind, place, 61)), SPENT);
+        due(call + " where", q.x.where(), 0);
+        promise = "11 work, 60 within one another";
+        // What stands in a FUNCTION is not worked with it, what a REC binds only by its NAME.
+        if (kind == 3 || kind == 8 && place == 0) continue;
+        Program r = new Program();
+        due(call, r.x.work(deepName(r, kind, place, 60), 300), 1);
+        Program s = new Program();
+        due(call + " and one more", s.x.work(deepName(s, kind, place, 61), 300), 2);
+        due(call + " stuck", s.x.stuck(), 0);
+      }
+    }
+    promise = "11 work, 60 within one another";
+    for (int deep = 60; deep <= 61; deep++) {
+      Program p = new Program();
+      int part = p.name(Z);
+      for (int i = 15; i < deep - 1; i++) part = p.get(A, part);
+      for (int i = 0; i < 15; i++) part = p.apply(p.function(A, part), p.number(1));
+      due("BODIES", p.x.work(part, 300), deep - 59);
+      Program q = new Program();
+      part = q.name(Z);
+      for (int i = 20; i < deep - 1; i++) part = q.get(A, part);
+      for (int i = 0; i < 10; i++) part = q.rec(A, part, q.name(A));
+      due("what a REC binds, within its NAME", q.x.work(part, 300), deep - 59);
+    }
   }
 
   private static void limitsOfTypes() {
