@@ -118,6 +118,7 @@ public final class PromisesTest {
     limitsOfTypes();
     mostTypes();
     deepCopies();
+    deepLifts();
     deepNodes();
     where();
     steps();
@@ -556,6 +557,30 @@ public final class PromisesTest {
     int given = p.name(A);
     for (int i = 0; i < 29; i++) given = p.record(A, given);
     return p.let(A, p.function(X, x), p.let(B, given, p.name(B)));
+  }
+
+  /** In a LET 28 RECORDS into a FUNCTION that takes 28 FIELDS: what is lower than another there is 58 deep. */
+  private static int deepLift(Program p, boolean up, boolean deeper) {
+    int fields = p.name(X);
+    for (int i = 0; i < 28; i++) fields = p.get(A, fields);
+    int function = p.function(X, up ? p.apply(p.name(Z), fields) : p.get(B, fields));
+    // What a PICK gives is asked one deeper.
+    if (deeper) function = p.pick(p.truth(1), function, p.function(Y, p.name(Y)));
+    int record = up ? p.record(B, p.name(Y)) : p.name(Z);
+    for (int i = 0; i < 28; i++) record = p.record(A, record);
+    return p.function(Z, p.let(A, p.function(Y, p.apply(function, record)), p.name(A)));
+  }
+
+  private static void deepLifts() {
+    promise = "5 type, SPENT behind LIFTED";
+    for (int i = 0; i < 2; i++) {
+      String way = i == 0 ? "down" : "up";
+      Program p = new Program();
+      // FUNCTION UNDER FUNCTION 1, the RECORD UNDER x 2 and UNDER {a: ..} 3, .. UNDER the last one 58, 59, LIFTED 60.
+      due(way + ", 60 deep", p.x.type(deepLift(p, i == 1, false)) > 0 ? 1 : 0, 1);
+      Program q = new Program();
+      due(way + ", 61 deep", q.x.type(deepLift(q, i == 1, true)), SPENT);
+    }
   }
 
   private static int within(Program p, int kind, int place, int part) {
