@@ -1,110 +1,5 @@
 /** Each promise of the document: ordinary calls, the edges that it names, wrong calls. The answers are written by hand. */
-public final class PromisesTest {
-  private static final int BAD = -1, FULL = -2, STATE = -4, SPENT = -6, FAULT = -7, NONE = -9;
-  private static final int A = 0, B = 1, C = 2, D = 3, E = 4, F = 5, G = 6, X = 23, Y = 24, Z = 25;
-
-  private static int passed = 0;
-  private static int failed = 0;
-  private static String promise = "";
-
-  /** The program under test, and short words to make NODES with. */
-  private static final class Program {
-    final PolarTypes x = new PolarTypes();
-
-    int number(int n) {
-      return x.node(0, n, 0, 0, 0);
-    }
-
-    int truth(int b) {
-      return x.node(1, b, 0, 0, 0);
-    }
-
-    int name(int l) {
-      return x.node(2, l, 0, 0, 0);
-    }
-
-    int function(int l, int body) {
-      return x.node(3, l, body, 0, 0);
-    }
-
-    int apply(int what, int to) {
-      return x.node(4, 0, what, to, 0);
-    }
-
-    int record(int... fields) {
-      int record = x.node(5, 0, 0, 0, 0);
-      for (int i = 0; i + 1 < fields.length; i += 2) x.field(record, fields[i], fields[i + 1]);
-      return record;
-    }
-
-    int get(int l, int part) {
-      return x.node(6, l, part, 0, 0);
-    }
-
-    int let(int l, int first, int second) {
-      return x.node(7, l, first, second, 0);
-    }
-
-    int rec(int l, int first, int second) {
-      return x.node(8, l, first, second, 0);
-    }
-
-    int pick(int truth, int yes, int no) {
-      return x.node(9, 0, truth, yes, no);
-    }
-
-    int sum(int a, int b) {
-      return x.node(10, 0, a, b, 0);
-    }
-
-    int less(int a, int b) {
-      return x.node(11, 0, a, b, 0);
-    }
-
-    String signs() {
-      StringBuilder text = new StringBuilder();
-      for (int i = 0; i < x.sign(-1); i++) text.append((char) x.sign(i));
-      return text.toString();
-    }
-
-    String below(int v, int i) {
-      return bound(v, false, i);
-    }
-
-    String above(int v, int i) {
-      return bound(v, true, i);
-    }
-
-    private String bound(int v, boolean above, int i) {
-      StringBuilder text = new StringBuilder();
-      for (int j = 0; j < x.bound(v, above, i, -1); j++) text.append((char) x.bound(v, above, i, j));
-      return text.toString();
-    }
-
-    /** LEVEL, how many BELOW, how many ABOVE. */
-    String variable(int v) {
-      return x.variable(v, 0) + " " + x.variable(v, 1) + " " + x.variable(v, 2);
-    }
-
-    String value() {
-      StringBuilder text = new StringBuilder();
-      for (int i = 0; i < x.value(-1); i++) text.append((char) x.value(i));
-      return text.toString();
-    }
-
-    /** What comes of a type(): its answer, where(), steps() and the signs. */
-    String typed(int node) {
-      int answer = x.type(node);
-      return answer + " at " + x.where() + ", " + x.steps() + " steps " + signs();
-    }
-
-    /** What comes of a work(): its OUTCOME, stuck(), worked() and the VALUE. */
-    String worked(int node, int n) {
-      int outcome = x.work(node, n);
-      return outcome + " at " + x.stuck() + ", " + x.worked() + " steps " + value();
-    }
-  }
-
+public final class PromisesTest extends Checks {
   public static void main(String[] args) {
     newObject();
     node();
@@ -131,30 +26,11 @@ public final class PromisesTest {
     stuck();
     count();
     digest();
-    System.out.println("PromisesTest: " + passed + " passed, " + failed + " failed");
-    if (failed != 0) System.exit(1);
-  }
-
-  private static void due(String call, long got, long want) {
-    if (got == want) {
-      passed++;
-    } else {
-      failed++;
-      System.out.println(promise + ": " + call + " answered " + got + ", due is " + want);
-    }
-  }
-
-  private static void due(String call, String got, String want) {
-    if (got.equals(want)) {
-      passed++;
-    } else {
-      failed++;
-      System.out.println(promise + ": " + call + " answered " + got + ", due is " + want);
-    }
+    end("PromisesTest");
   }
 
   private static void newObject() {
-    promise = "1 a new object";
+    promise("1 a new object");
     PolarTypes x = new PolarTypes();
     due("NODES", x.count(0), 0);
     due("VARIABLES", x.count(1), 0);
@@ -187,7 +63,7 @@ public final class PromisesTest {
   }
 
   private static void node() {
-    promise = "2 node";
+    promise("2 node");
     PolarTypes x = new PolarTypes();
     due("KIND -1", x.node(-1, 0, 0, 0, 0), BAD);
     due("KIND 12", x.node(12, 0, 0, 0, 0), BAD);
@@ -231,7 +107,7 @@ public final class PromisesTest {
   }
 
   private static void field() {
-    promise = "3 field";
+    promise("3 field");
     Program p = new Program();
     PolarTypes x = p.x;
     int outer = p.record();
@@ -286,7 +162,7 @@ public final class PromisesTest {
   }
 
   private static void told() {
-    promise = "4 told";
+    promise("4 told");
     Program p = new Program();
     PolarTypes x = p.x;
     int minus = p.number(-9);
@@ -326,7 +202,7 @@ public final class PromisesTest {
   }
 
   private static void type() {
-    promise = "5 type";
+    promise("5 type");
     Program p = new Program();
     PolarTypes x = p.x;
     due("BAD", x.type(-1), BAD);
@@ -349,7 +225,7 @@ public final class PromisesTest {
   }
 
   private static void typeOfParts() {
-    promise = "5 type of each KIND";
+    promise("5 type of each KIND");
     Program p = new Program();
     due("empty RECORD", p.typed(p.record()), "0 at -9, 0 steps {}");
     due("RECORD", p.typed(p.record(B, p.number(1), A, p.record(Z, p.truth(0)))), "0 at -9, 0 steps {bwa{zt}}");
@@ -391,7 +267,7 @@ public final class PromisesTest {
   }
 
   private static void schemes() {
-    promise = "5 type of LET and REC";
+    promise("5 type of LET and REC");
     Program p = new Program();
     int id = p.function(X, p.name(X));
     int two = p.record(A, p.apply(p.name(F), p.number(1)), B, p.apply(p.name(F), p.truth(1)));
@@ -434,7 +310,7 @@ public final class PromisesTest {
   }
 
   private static void levels() {
-    promise = "5 type, LIFTED";
+    promise("5 type, LIFTED");
     Program p = new Program();
     // x: v0 (0). In LET (1): y: v1 (1); x y: r v2 (1): v0 UNDER >'1'2, whose LEVEL is above: LIFTED down to 0.
     int node = p.function(X, p.let(A, p.function(Y, p.apply(p.name(X), p.name(Y))), p.name(A)));
@@ -473,7 +349,7 @@ public final class PromisesTest {
   }
 
   private static void liftedUp() {
-    promise = "5 type, LIFTED up";
+    promise("5 type, LIFTED up");
     Program p = new Program();
     int function = p.function(X, p.apply(p.name(F), p.name(X)));
     int first = p.function(Y, p.apply(function, p.record(10, p.name(Y))));
@@ -510,7 +386,7 @@ public final class PromisesTest {
   }
 
   private static void mostTypes() {
-    promise = "5 type, SPENT by TYPES";
+    promise("5 type, SPENT by TYPES");
     // 1 VARIABLE, 9 RECORDS, 1 FUNCTION; MADE ANEW 1 VARIABLE, 511 RECORDS, 1 FUNCTION: 524.
     due("600 TYPES", types(76), 2);
     due("601 TYPES", types(77), SPENT);
@@ -527,7 +403,7 @@ public final class PromisesTest {
   }
 
   private static void deepCopies() {
-    promise = "5 type, SPENT by copies";
+    promise("5 type, SPENT by copies");
     Program p = new Program();
     // The RECORDS of b, the FUNCTION, the RECORDS of a, the VARIABLE.
     due("MADE ANEW 60 deep", p.x.type(deepLet(p, 29, 29, false)), 4);
@@ -572,7 +448,7 @@ public final class PromisesTest {
   }
 
   private static void deepLifts() {
-    promise = "5 type, SPENT behind LIFTED";
+    promise("5 type, SPENT behind LIFTED");
     for (int i = 0; i < 2; i++) {
       String way = i == 0 ? "down" : "up";
       Program p = new Program();
@@ -612,13 +488,13 @@ public final class PromisesTest {
     for (int kind = 3; kind <= 11; kind++) {
       for (int place = 0; place < places[kind]; place++) {
         String call = "KIND " + kind + " at " + place;
-        promise = "5 type, 60 deep";
+        promise("5 type, 60 deep");
         Program p = new Program();
         due(call, p.x.type(deepName(p, kind, place, 60)), FAULT);
         Program q = new Program();
         due(call + " and one more", q.x.type(deepName(q, kind, place, 61)), SPENT);
         due(call + " where", q.x.where(), 0);
-        promise = "11 work, 60 within one another";
+        promise("11 work, 60 within one another");
         // What stands in a FUNCTION is not worked with it, what a REC binds only by its NAME.
         if (kind == 3 || kind == 8 && place == 0) continue;
         Program r = new Program();
@@ -628,7 +504,7 @@ public final class PromisesTest {
         due(call + " stuck", s.x.stuck(), 0);
       }
     }
-    promise = "11 work, 60 within one another";
+    promise("11 work, 60 within one another");
     for (int deep = 60; deep <= 61; deep++) {
       Program p = new Program();
       int part = p.name(Z);
@@ -644,7 +520,7 @@ public final class PromisesTest {
   }
 
   private static void limitsOfTypes() {
-    promise = "5 type, SPENT";
+    promise("5 type, SPENT");
     Program p = new Program();
     int deep = p.number(1);
     for (int i = 0; i < 59; i++) deep = p.function(A, deep);
@@ -701,7 +577,7 @@ public final class PromisesTest {
   }
 
   private static void where() {
-    promise = "6 where";
+    promise("6 where");
     Program p = new Program();
     int name = p.name(A);
     int sum = p.sum(p.number(1), name);
@@ -728,7 +604,7 @@ public final class PromisesTest {
   }
 
   private static void steps() {
-    promise = "7 steps";
+    promise("7 steps");
     Program p = new Program();
     int a = p.sum(p.number(1), p.number(2));
     due("before", p.x.steps(), 0);
@@ -764,7 +640,7 @@ public final class PromisesTest {
   }
 
   private static void sign() {
-    promise = "8 sign";
+    promise("8 sign");
     Program p = new Program();
     int f = p.function(X, p.sum(p.name(X), p.get(B, p.record(B, p.name(X)))));
     due("before", p.x.sign(-1), STATE);
@@ -821,7 +697,7 @@ public final class PromisesTest {
   }
 
   private static void variable() {
-    promise = "9 variable";
+    promise("9 variable");
     Program p = new Program();
     int f = p.function(X, p.pick(p.name(X), p.number(1), p.name(X)));
     due("before", p.x.variable(0, 0), BAD);
@@ -851,7 +727,7 @@ public final class PromisesTest {
   }
 
   private static void bound() {
-    promise = "10 bound";
+    promise("10 bound");
     Program p = new Program();
     due("before", p.x.bound(0, false, 0, -1), BAD);
     int f = p.function(X, p.apply(p.name(X), p.name(X)));
@@ -892,7 +768,7 @@ public final class PromisesTest {
   }
 
   private static void work() {
-    promise = "11 work";
+    promise("11 work");
     Program p = new Program();
     int one = p.number(1);
     due("NODE", p.x.work(1, 9), BAD);
@@ -939,7 +815,7 @@ public final class PromisesTest {
   }
 
   private static void value() {
-    promise = "12 value";
+    promise("12 value");
     Program p = new Program();
     int record = p.record(C, p.number(-12), A, p.truth(0), B, p.function(X, p.name(X)), D, p.record());
     due("before", p.x.value(-1), NONE);
@@ -986,7 +862,7 @@ public final class PromisesTest {
   }
 
   private static void worked() {
-    promise = "13 worked";
+    promise("13 worked");
     Program p = new Program();
     int sum = p.sum(p.number(1), p.sum(p.number(2), p.number(3)));
     due("before", p.x.worked(), 0);
@@ -1008,7 +884,7 @@ public final class PromisesTest {
   }
 
   private static void stuck() {
-    promise = "14 stuck";
+    promise("14 stuck");
     Program p = new Program();
     due("before", p.x.stuck(), NONE);
     int name = p.name(A);
@@ -1048,7 +924,7 @@ public final class PromisesTest {
   }
 
   private static void count() {
-    promise = "15 count";
+    promise("15 count");
     Program p = new Program();
     int f = p.function(A, p.name(A));
     int n = p.number(1);
@@ -1076,7 +952,7 @@ public final class PromisesTest {
   }
 
   private static void digest() {
-    promise = "16 digest";
+    promise("16 digest");
     Program p = new Program();
     int one = p.number(-3);
     int record = p.record(Z, one);
