@@ -9,8 +9,10 @@ public final class EdgesOfTypesTest extends Checks {
     nearestBinder();
     boundThroughEachKind();
     boundByNone();
+    partsInOrder();
     greatestLevel();
     alike();
+    askedBefore();
     madeAnewAboveItsLevel();
     goodAndElseFault();
     lackedLabel();
@@ -92,6 +94,34 @@ public final class EdgesOfTypesTest extends Checks {
     due("its VARIABLES came", p.x.count(1), 2);
   }
 
+  /** A NODE of a KIND whose part at a place no FUNCTION binds: what it answers, and what came ahead of it. */
+  private static void partsInOrder() {
+    String[] words = {"APPLY: both parts, then a new VARIABLE r (l);", "RECORD: its FIELDS: RECORD of these.",
+        "FIELD x: the part, then a new VARIABLE v (l);", "LET: the first part at l + 1: x is SCHEME l with that; the second part; that.",
+        "REC: a new VARIABLE e (l + 1); the first part at l + 1, x being e; its TYPE UNDER e; x is SCHEME l with e; the second part; that.",
+        "PICK: the first part; it UNDER TRUTH; a new VARIABLE r (l); the second part; it UNDER r; the third; it UNDER r; r.",
+        "SUM, LESS: the first part; it UNDER WHOLE; the second; it UNDER WHOLE; WHOLE, TRUTH.",
+        "FUNCTION: a new VARIABLE (LEVEL l) for x, then the BODY: FUNCTION OF these."};
+    int[][] kinds = {{4}, {5}, {6}, {7}, {8}, {9}, {10, 11}, {3}};
+    // VARIABLES and STEPS ahead of the first, second, third part.
+    String[][] ahead = {{"0 0", "0 0"}, {"0 0", "0 0"}, {"0 0"}, {"0 0", "0 0"}, {"1 0", "1 1"}, {"0 0", "1 1", "1 2"},
+        {"0 0", "0 1"}, {"1 0"}};
+    for (int i = 0; i < words.length; i++) {
+      sentence(words[i]);
+      for (int kind : kinds[i]) {
+        for (int place = 0; place < ahead[i].length; place++) {
+          Program p = new Program();
+          int[] parts = {kind == 9 ? p.truth(1) : p.number(1), p.number(2), p.number(3)};
+          parts[place] = p.name(A);
+          int node = p.x.node(kind, B, parts[0], parts[1], parts[2]);
+          if (kind == 5) for (int j = 0; j < 2; j++) p.x.field(node, j, parts[j]);
+          due("KIND " + kind + " at " + place, p.x.type(node), FAULT);
+          due("VARIABLES and STEPS ahead", p.x.count(1) + " " + p.x.steps(), ahead[i][place]);
+        }
+      }
+    }
+  }
+
   private static void greatestLevel() {
     sentence("LEVEL of another TYPE: the greatest of its parts' (0 without).");
     // z v0 (0); in the LET y v1 (1), r v2 (1): v0 UNDER FUNCTION OF the RECORD TO '2, and that LIFTED down: the RECORD
@@ -130,6 +160,24 @@ public final class EdgesOfTypesTest extends Checks {
     due("two FIELDS", p.typed(p.function(X, record)), "3 at -9, 2 steps >&'0{a'1}{a'2}.{a'1b'2}");
     int same = p.let(A, p.record(), p.pick(p.truth(1), p.name(A), p.name(A)));
     due("the same RECORD", p.typed(same), "1 at -9, 3 steps |'0{}.");
+  }
+
+  private static void askedBefore() {
+    sentence("a UNDER b: nothing, if it was asked before (the same two);");
+    Program p = new Program();
+    int twice = p.pick(p.truth(1), p.name(X), p.name(X));
+    due("x UNDER r", p.typed(p.function(X, twice)), "2 at -9, 3 steps >&'0'1.'1");
+    due("comes once", p.variable(0), "0 0 1");
+    Program q = new Program();
+    // e v0, x v1, r v2, f x v3. t 1; x UNDER r 2; e UNDER that of x TO '3 3; v3 UNDER r 4; the FUNCTION UNDER e 5, UNDER
+    // what is ABOVE e 6: x UNDER x 7, r UNDER v3 8: that the other way round was asked is another thing.
+    int f = q.function(X, q.pick(q.truth(1), q.name(X), q.apply(q.name(F), q.name(X))));
+    due("r UNDER v3, v3 UNDER r", q.typed(q.rec(F, f, q.name(F))), "8 at -9, 8 steps |'4>&'5&'6&'7'6..'5.'6.");
+    due("x", q.variable(1), "1 0 2");
+    due("r", q.variable(2), "1 0 1");
+    due("v3", q.variable(3), "1 0 1");
+    // What was asked in one type() was not in the next.
+    due("again", q.typed(q.x.count(0) - 1), "8 at -9, 8 steps |'4>&'5&'6&'7'6..'5.'6.");
   }
 
   private static void madeAnewAboveItsLevel() {
@@ -371,6 +419,7 @@ public final class EdgesOfTypesTest extends Checks {
   }
 
   private static void latest() {
+    sentence("BAD; SPENT; FAULT.");
     sentence("(It is the latest one then, also with SPENT, FAULT.)");
     Program p = new Program();
     int good = p.function(A, p.name(A));

@@ -339,10 +339,18 @@ public final class ModelTest {
   private void junk() {
     for (int i = 0; i < 12; i++) {
       int most = both.model.nodes.size() + 2;
-      both.node(next(14) - 1, next(30) - 2, next(most) - 1, next(most) - 1, next(most) - 1);
-      both.field(next(most) - 1, next(28) - 1, next(most) - 1);
+      both.node(junk(14), junk(30), junk(most), junk(most), junk(most));
+      both.field(junk(most), junk(28), junk(most));
     }
     both.sameNodes();
+    both.type(junk(both.model.nodes.size() + 2));
+    both.work(junk(both.model.nodes.size() + 2), junk(303));
+  }
+
+  /** - 1 to most - 2; now and then far outside. */
+  private int junk(int most) {
+    if (chance(4)) return chance(50) ? Integer.MIN_VALUE + next(2) : Integer.MAX_VALUE - next(2);
+    return next(most) - 1;
   }
 
   /** A FIELD more: the latest type() is none any more. */
